@@ -1,0 +1,40 @@
+import java.io.IOException;
+import java.nio.file.Files;
+import java.nio.file.Path;
+import java.util.regex.Matcher;
+import java.util.regex.Pattern;
+
+/** Those rules of ../shared/LANGUAGE.md that can be seen in the text of the program. */
+final class LanguageTest {
+    private static final String[] OUTSIDE_THE_LANGUAGE = {
+        "\\bpackage\\b", "\\bimport\\b", "->", "::", "\\bsynchronized\\b", "\\bassert\\b",
+        "\\bfinally\\b", "\\bcatch\\b", "\\bvar\\b", "Exact\\b", "\\bMath\\.(?!min\\b|max\\b)", "\\bRandom\\b",
+        "\\bThread\\b", "\\bSystem\\.(?!arraycopy\\b)", "\\bgetClass\\b", "@Override", "\\bprotected\\b",
+        "\\bvolatile\\b", "\\bnative\\b", "\\bObject\\b", "\\bnew String\\b", "[^\\x00-\\x7f]",
+        "\\bstatic (?!final|int|float|boolean|void)", "\\bwhile\\b"
+    };
+
+    public static void main(String[] args) throws IOException {
+        String source = Files.readString(Path.of("src/main/java/TwoScribes.java"));
+        String code = source.replaceAll("(?s)/\\*.*?\\*/", "").replaceAll("//[^\n]*", "");
+        for (String rule : OUTSIDE_THE_LANGUAGE) {
+            Matcher m = Pattern.compile(rule).matcher(code);
+            Check.holds("no " + rule + " in the program", !m.find());
+        }
+        methodsAreShort(code);
+        Check.finish();
+    }
+
+    /** A method begins with a line that ends in "{" at the depth of a class. */
+    private static void methodsAreShort(String code) {
+        Matcher m = Pattern.compile("(?m)^( {4}| {8})(?! )[^\n]*\\)\\s*\\{\n(.*?)^\\1\\}", Pattern.DOTALL)
+                .matcher(code);
+        int methods = 0;
+        while (m.find()) {
+            methods++;
+            long lines = m.group(2).lines().count();
+            Check.holds("a method is short: " + m.group().lines().findFirst().orElse(""), lines <= 60);
+        }
+        Check.holds("methods were found", methods > 60);
+    }
+}
