@@ -8,6 +8,7 @@ final class HistoryTest {
         everyActIsUndone();
         keeps();
         theSnapshotStays();
+        waitingAndDippingAreState();
         Check.finish();
     }
 
@@ -123,5 +124,24 @@ final class HistoryTest {
         x.undo();
         Check.due("undo() leaves the snapshot", x.restore(), 13);
         Check.holds("as it was", Arrays.equals(kept, Check.stateOf(x)));
+    }
+
+    private static void waitingAndDippingAreState() {
+        TwoScribes x = Check.withPage("zz");
+        x.set(0, 5);
+        x.pass(2);
+        x.keep();
+        double[] kept = Check.stateOf(x);
+        x.pass(9);
+        Check.due("s1 has waited", x.scribe(1, 6), 5);
+        Check.due("undo()", x.undo(), 3);
+        Check.due("the waiting is undone", x.scribe(1, 6), 2);
+        Check.due("s0 dips again", x.scribe(0, 4), 4);
+        Check.due("no dip is over", x.scribe(0, 5), 0);
+        x.pass(9);
+        x.restore();
+        Check.holds("all of it is restored", Arrays.equals(kept, Check.stateOf(x)));
+        x.pass(4);
+        Check.due("and goes on as before", x.scribe(0, 5), 1);
     }
 }

@@ -7,11 +7,13 @@ import java.util.regex.Pattern;
 /** Those rules of ../shared/LANGUAGE.md that can be seen in the text of the program. */
 final class LanguageTest {
     private static final String[] OUTSIDE_THE_LANGUAGE = {
-        "\\bpackage\\b", "\\bimport\\b", "->", "::", "\\bsynchronized\\b", "\\bassert\\b",
-        "\\bfinally\\b", "\\bcatch\\b", "\\bvar\\b", "Exact\\b", "\\bMath\\.(?!min\\b|max\\b)", "\\bRandom\\b",
-        "\\bThread\\b", "\\bSystem\\.(?!arraycopy\\b)", "\\bgetClass\\b", "@Override", "\\bprotected\\b",
-        "\\bvolatile\\b", "\\bnative\\b", "\\bObject\\b", "\\bnew String\\b", "[^\\x00-\\x7f]",
-        "\\bstatic (?!final|int|float|boolean|void)", "\\bwhile\\b"
+        "\\bpackage\\b", "\\bimport\\b(?! java\\.util\\.(ArrayList|List|Arrays|Iterator);)", "->", "::",
+        "\\bsynchronized\\b", "\\bassert\\b", "\\bfinally\\b", "\\bvar\\b", "\\bvolatile\\b",
+        "\\bnative\\b", "\\bprotected\\b", "\\bMath\\.(?!min\\b|max\\b|abs\\b|floor(Div|Mod)\\b)",
+        "Exact\\b", "\\bRandom\\b", "\\bThread\\b", "\\bSystem\\.(?!arraycopy\\b)", "\\bgetClass\\b",
+        "\\bObject\\b", "[^\\x00-\\x7f]",
+        // The document has no exceptions: nothing is thrown, so nothing is caught.
+        "\\bcatch\\b", "\\bthrow\\b"
     };
 
     public static void main(String[] args) throws IOException {

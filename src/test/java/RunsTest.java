@@ -38,6 +38,10 @@ final class RunsTest {
                 Check.due("and is not recorded", x.count(12), states);
             } else if (kind < 12) {
                 Check.due("an act is recorded", x.count(12), Math.min(4, states + 1));
+                if (below(3) == 0) {
+                    Check.due("undo()", x.undo(), Math.min(3, states));
+                    Check.holds("an act is undone", Arrays.equals(before, Check.stateOf(x)));
+                }
             }
             accountsAddUp(x);
             countsAgree(x);
