@@ -365,7 +365,7 @@ final class ToldEdgesTest {
         Check.due("3 ticks of dipping, 2 of writing", x.doneIn(), 5);
     }
 
-    /** The slowest page there is, of 40 letters, is done long ahead of 2000. */
+    /** A page with all that makes it slow is done long ahead of 2000. */
     private static void theSlowestPageIsDone() {
         TwoScribes x = Check.withPage("zzzzzzzzzzzzzzzzzzzz");
         x.pour(80);
