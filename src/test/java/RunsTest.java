@@ -10,19 +10,18 @@ final class RunsTest {
         "mnopqrstuvwxyzabcdef", "zzzzzzzzzzzzzzzzzzzz", "ppp!1p,4z"
     };
 
-    private static long seed;
+    private static Choice choice;
 
     public static void main(String[] args) {
         for (int run = 0; run < 60; run++) {
-            seed = run;
+            choice = new Choice(run);
             run(run % 3 == 0);
         }
         Check.finish();
     }
 
     private static int below(int bound) {
-        seed = seed * 6364136223846793005L + 1442695040888963407L;
-        return (int) Math.floorMod(seed >> 33, (long) bound);
+        return choice.below(bound);
     }
 
     private static void run(boolean withOddArguments) {
